@@ -20,16 +20,13 @@ public final class NewObjectTest {
             answer(0, true) ! IllegalArgumentException
             crew(0, 0) = 0
             """);
-        Script.run("the hour is 0, the patience 2", """
+        Script.run("the hour is 0, the patience 2, no day a holiday, the carry 0", """
+            working(0, 6) = 5
+            carry(0)
             person(0, 0, 0) = 0
             crew(0, 0) = 0
             call(0, 0) = 0
             callAt(0, 3) = 2
-            """);
-        Script.run("objects share nothing", """
-            person(0, 0, 0) = 0
-            crew(0, 0) = 0
-            working(0, 6) = 5
             """);
         Script.end();
     }

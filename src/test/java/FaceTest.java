@@ -1,0 +1,131 @@
+import java.io.IOException;
+import java.lang.reflect.Constructor;
+import java.lang.reflect.Field;
+import java.lang.reflect.Method;
+import java.lang.reflect.Modifier;
+import java.nio.file.Files;
+import java.nio.file.Path;
+import java.util.Arrays;
+import java.util.Set;
+import java.util.TreeSet;
+import java.util.stream.Collectors;
+
+/** The public face of the document, and those rules of LANGUAGE.md that can be seen in the class and its source. */
+public final class FaceTest {
+    private static final String[] FACE = {
+        "int person(int, int, int) IndexOutOfBoundsException UnsupportedOperationException",
+        "void budget(int, int, int) IllegalArgumentException IndexOutOfBoundsException IllegalStateException",
+        "void carry(int) IndexOutOfBoundsException IllegalStateException",
+        "void holiday(int) IndexOutOfBoundsException IllegalStateException",
+        "int working(int, int) IndexOutOfBoundsException",
+        "int crew(int, int) IndexOutOfBoundsException UnsupportedOperationException",
+        "int member(int, int, boolean) IllegalArgumentException IllegalStateException",
+        "int ask(int, int, int, int, int) IllegalArgumentException IndexOutOfBoundsException IllegalStateException"
+            + " UnsupportedOperationException",
+        "int grant(int, int) IllegalArgumentException IllegalStateException",
+        "int withdraw(int) IllegalArgumentException IllegalStateException",
+        "int askAt(int, int) IllegalArgumentException",
+        "int left(int, int, int) IllegalArgumentException",
+        "boolean absent(int, int) IllegalArgumentException IndexOutOfBoundsException",
+        "int present(int, int) IllegalArgumentException IndexOutOfBoundsException",
+        "int held(int, int) IllegalArgumentException",
+        "void bar(int, int, int) IllegalArgumentException IndexOutOfBoundsException",
+        "void patience(int) IndexOutOfBoundsException",
+        "int call(int, int) IllegalArgumentException IndexOutOfBoundsException UnsupportedOperationException",
+        "int answer(int, boolean) IllegalArgumentException IllegalStateException",
+        "int callAt(int, int) IllegalArgumentException",
+        "int asked(int) IllegalArgumentException",
+        "int tick(int) IndexOutOfBoundsException",
+    };
+
+    /** Words that stand for what the rules leave out, and that the program has no need of. */
+    private static final String[] RULED_OUT = {
+        "import ", "->", "::", "catch", "try ", "finally", "synchronized", "assert ", "static {", "while ",
+        "Exact(", "System.", "Random", "Thread", "NullPointerException", "ArrayIndexOutOfBounds",
+    };
+
+    public static void main(String[] args) throws IOException {
+        theFace();
+        nothingElseIsVisible();
+        namesOfPrivateMethods();
+        source();
+        Script.end();
+    }
+
+    private static void theFace() {
+        int modifiers = AbsenceRows.class.getModifiers();
+        if (!Modifier.isPublic(modifiers) || !Modifier.isFinal(modifiers)) {
+            Script.fail("the class is not public and final");
+        }
+        Set<String> got = new TreeSet<>();
+        for (Method method : AbsenceRows.class.getDeclaredMethods()) {
+            if (Modifier.isPublic(method.getModifiers())) {
+                got.add(describe(method));
+            }
+        }
+        Set<String> want = new TreeSet<>(Arrays.asList(FACE));
+        if (!got.equals(want)) {
+            Script.fail("the face is " + got + ", due is " + want);
+        }
+        Constructor<?>[] made = AbsenceRows.class.getDeclaredConstructors();
+        if (made.length != 1 || !Modifier.isPublic(made[0].getModifiers()) || made[0].getParameterCount() != 0) {
+            Script.fail("the constructor is not the document's");
+        }
+    }
+
+    private static String describe(Method method) {
+        String types = names(method.getParameterTypes(), ", ");
+        String thrown = names(method.getExceptionTypes(), " ");
+        return method.getReturnType() + " " + method.getName() + "(" + types + ") " + thrown;
+    }
+
+    private static String names(Class<?>[] types, String between) {
+        return Arrays.stream(types).map(Class::getSimpleName).collect(Collectors.joining(between));
+    }
+
+    private static void nothingElseIsVisible() {
+        for (Method method : AbsenceRows.class.getDeclaredMethods()) {
+            int modifiers = method.getModifiers();
+            if (!Modifier.isPublic(modifiers) && !Modifier.isPrivate(modifiers)) {
+                Script.fail(method + " is visible");
+            }
+        }
+        for (Field field : AbsenceRows.class.getDeclaredFields()) {
+            if (!Modifier.isPrivate(field.getModifiers())) {
+                Script.fail(field + " is visible");
+            }
+            if (Modifier.isStatic(field.getModifiers()) && !Modifier.isFinal(field.getModifiers())) {
+                Script.fail(field + " is static state");
+            }
+        }
+        for (Class<?> inside : AbsenceRows.class.getDeclaredClasses()) {
+            if (!Modifier.isStatic(inside.getModifiers()) || Modifier.isPublic(inside.getModifiers())) {
+                Script.fail(inside + " is not static, or is public");
+            }
+        }
+    }
+
+    private static void namesOfPrivateMethods() {
+        Set<String> face = new TreeSet<>();
+        for (Method method : AbsenceRows.class.getMethods()) {
+            face.add(method.getName());
+        }
+        for (Method method : AbsenceRows.class.getDeclaredMethods()) {
+            if (Modifier.isPrivate(method.getModifiers()) && face.contains(method.getName())) {
+                Script.fail(method + " bears the name of a public one");
+            }
+            if (method.getParameterCount() > 7) {
+                Script.fail(method + " takes more than seven parameters");
+            }
+        }
+    }
+
+    private static void source() throws IOException {
+        String text = Files.readString(Path.of("src/main/java/AbsenceRows.java"));
+        for (String word : RULED_OUT) {
+            if (text.contains(word)) {
+                Script.fail("the source has '" + word + "'");
+            }
+        }
+    }
+}
