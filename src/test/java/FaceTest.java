@@ -38,10 +38,11 @@ public final class FaceTest {
         "int tick(int) IndexOutOfBoundsException",
     };
 
-    /** Words that stand for what the rules leave out, and that the program has no need of. */
+    /** What the rules 2, 4, 5, 6 and 13 leave out, where a single word shows it. */
     private static final String[] RULED_OUT = {
-        "import ", "->", "::", "catch", "try ", "finally", "synchronized", "assert ", "static {", "while ",
-        "Exact(", "System.", "Random", "Thread", "NullPointerException", "ArrayIndexOutOfBounds",
+        "::", "finally", "synchronized", "assert ", "static {", "Exact(", "System.out", "System.nano", "System.current",
+        "Random", "Thread", "Math.random", "NullPointerException", "ArrayIndexOutOfBounds", "ClassCastException",
+        "NegativeArraySize", "ArrayStoreException", "catch (Exception ", "catch (Throwable ",
     };
 
     public static void main(String[] args) throws IOException {
@@ -121,11 +122,17 @@ public final class FaceTest {
     }
 
     private static void source() throws IOException {
-        String text = Files.readString(Path.of("src/main/java/AbsenceRows.java"));
+        String text = withoutRemarks(Files.readString(Path.of("src/main/java/AbsenceRows.java")));
         for (String word : RULED_OUT) {
             if (text.contains(word)) {
                 Script.fail("the source has '" + word + "'");
             }
         }
+    }
+
+    /** Remarks and written texts may have any word. */
+    private static String withoutRemarks(String text) {
+        return text.replaceAll("(?s)/\\*.*?\\*/", " ").replaceAll("//[^\n]*", " ")
+            .replaceAll("\"(?:[^\"\\\\\n]|\\\\.)*\"", "\"\"");
     }
 }

@@ -10,13 +10,16 @@ import java.lang.reflect.Method;
  *   budget(0, 30, 1)
  * </pre>
  *
- * A boolean answer counts 1 or 0; a line with neither '=' nor '!' must only not throw. An exception must be of
- * exactly the class that is named: what the machine itself throws is never right.
+ * A boolean answer counts 1 or 0; a line with neither '=' nor '!' is of a void method, which must not throw. An
+ * exception must be of exactly the class that is named: what the machine itself throws is never right.
  */
 final class Script {
+    /** What an object answers after so many calls is free, so no run may ask for more. */
+    private static final int MOST_CALLS = 512;
     private static int wrong = 0;
     private final AbsenceRows rows = new AbsenceRows();
     private final String name;
+    private int calls = 0;
 
     private Script(String name) {
         this.name = name;
@@ -45,6 +48,10 @@ final class Script {
     }
 
     private void check(String line) {
+        calls++;
+        if (calls == MOST_CALLS + 1) {
+            fail(name + ": the run has more than " + MOST_CALLS + " calls");
+        }
         String call = line.split(" [=!] ")[0];
         String want = line.length() == call.length() ? "= nothing" : line.substring(call.length()).strip();
         String got = answerTo(rows, call);
