@@ -45,12 +45,12 @@ final class EdgesOfPromises1To8 {
 
     private static void besideAnOldOne() {
         AbsenceRows old = new AbsenceRows();
-        old.person(0, 0, 0);
-        old.crew(0, 0);
-        old.holiday(0);
-        old.carry(100);
-        old.patience(48);
-        old.tick(100);
+        String[] before = {
+            "person(0, 0, 0)", "crew(0, 0)", "holiday(0)", "carry(100)", "patience(48)", "tick(100)",
+        };
+        for (String call : before) {
+            Script.answerTo(old, call);
+        }
         Edges.of("Promise 1", "No persons, no crews.", "a new object has nothing of an older one", """
             asked(0) ! IllegalArgumentException
             present(0, 0) ! IllegalArgumentException
@@ -61,8 +61,10 @@ final class EdgesOfPromises1To8 {
             call(0, 0) = 0
             callAt(0, 3) = 2
             """);
-        if (old.working(0, 0) != 0 || old.person(0, 0, 0) != 1 || old.crew(0, 0) != 1) {
-            Script.fail("Promise 1: an older object has something of a new one");
+        String after = Script.answerTo(old, "working(0, 0)") + Script.answerTo(old, "person(0, 0, 0)")
+            + Script.answerTo(old, "crew(0, 0)");
+        if (!after.equals("= 0= 1= 1")) {
+            Script.fail("Promise 1: an older object has something of a new one: " + after);
         }
     }
 
