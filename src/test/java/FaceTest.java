@@ -8,7 +8,10 @@ import java.nio.file.Path;
 import java.util.Arrays;
 import java.util.Set;
 import java.util.TreeSet;
+import java.util.regex.MatchResult;
+import java.util.regex.Pattern;
 import java.util.stream.Collectors;
+import java.util.stream.Stream;
 
 /** The public face of the document, and those rules of LANGUAGE.md that can be seen in the class and its source. */
 public final class FaceTest {
@@ -45,10 +48,15 @@ public final class FaceTest {
         "NegativeArraySize", "ArrayStoreException", "catch (Exception ", "catch (Throwable ",
     };
 
+    private static final Path DOCUMENT = Path.of("../shared/DOC.md");
+    private static final Pattern SIGNATURE = Pattern.compile("(\\w+) (\\w+)\\(([^()]*)\\) throws ([\\w, ]+)");
+
     public static void main(String[] args) throws IOException {
         theFace();
+        theDocument();
         nothingElseIsVisible();
         namesOfPrivateMethods();
+        sizes();
         source();
         Script.end();
     }
@@ -74,6 +82,32 @@ public final class FaceTest {
         }
     }
 
+    /** The document tells each method twice: in its face, and at the head of the method's promise. */
+    private static void theDocument() throws IOException {
+        if (!Files.isReadable(DOCUMENT)) {
+            System.out.println("no " + DOCUMENT + ": the face is not compared with it");
+            return;
+        }
+        String text = Files.readString(DOCUMENT);
+        Set<String> want = new TreeSet<>(Arrays.asList(FACE));
+        Set<String> inFace = signatures(text, "    public ", ";");
+        Set<String> inPromises = signatures(text, "`", "`: ");
+        if (!inFace.equals(want) || !inPromises.equals(want)) {
+            Script.fail("the document's face is " + inFace + ", its promises' is " + inPromises + ", due is " + want);
+        }
+    }
+
+    private static Set<String> signatures(String text, String before, String after) {
+        Pattern pattern = Pattern.compile("(?m)^" + before + SIGNATURE + after);
+        return pattern.matcher(text).results().map(FaceTest::describe).collect(Collectors.toCollection(TreeSet::new));
+    }
+
+    private static String describe(MatchResult signature) {
+        String types = signature.group(3).replaceAll("(\\w+) \\w+", "$1");
+        String thrown = signature.group(4).replace(",", "");
+        return signature.group(1) + " " + signature.group(2) + "(" + types + ") " + thrown;
+    }
+
     private static String describe(Method method) {
         String types = names(method.getParameterTypes(), ", ");
         String thrown = names(method.getExceptionTypes(), " ");
@@ -95,9 +129,6 @@ public final class FaceTest {
             if (!Modifier.isPrivate(field.getModifiers())) {
                 Script.fail(field + " is visible");
             }
-            if (Modifier.isStatic(field.getModifiers()) && !Modifier.isFinal(field.getModifiers())) {
-                Script.fail(field + " is static state");
-            }
         }
         for (Class<?> inside : AbsenceRows.class.getDeclaredClasses()) {
             if (!Modifier.isStatic(inside.getModifiers()) || Modifier.isPublic(inside.getModifiers())) {
@@ -115,9 +146,34 @@ public final class FaceTest {
             if (Modifier.isPrivate(method.getModifiers()) && face.contains(method.getName())) {
                 Script.fail(method + " bears the name of a public one");
             }
+        }
+    }
+
+    /** Rules 5 and 11, of the class and of those inside it. */
+    private static void sizes() {
+        Class<?>[] inside = AbsenceRows.class.getDeclaredClasses();
+        if (inside.length + 1 > 12) {
+            Script.fail("there are more than twelve classes");
+        }
+        Stream.concat(Stream.of(AbsenceRows.class), Stream.of(inside)).forEach(FaceTest::sizeOf);
+    }
+
+    private static void sizeOf(Class<?> type) {
+        for (Method method : type.getDeclaredMethods()) {
             if (method.getParameterCount() > 7) {
                 Script.fail(method + " takes more than seven parameters");
             }
+        }
+        int fields = 0;
+        for (Field field : type.getDeclaredFields()) {
+            if (!Modifier.isStatic(field.getModifiers())) {
+                fields++;
+            } else if (!Modifier.isFinal(field.getModifiers())) {
+                Script.fail(field + " is static state");
+            }
+        }
+        if (fields > 20) {
+            Script.fail(type + " has more than twenty fields");
         }
     }
 
